@@ -713,7 +713,8 @@ public final class StaticDial {
 
     /** Works out an E; the names' values are laid into it before. */
     private static final class Sum {
-        static final long LIMIT = 1000000000000L;
+        private static final long LIMIT = 1000000000000L;
+        private static final long BEYOND = LIMIT + 1;
 
         static final int OR = 0;
         static final int AND = 1;
@@ -731,12 +732,11 @@ public final class StaticDial {
 
         final long[] names = new long[Law.NAMES];
         private final long[] stack = new long[MOST_KNOTS];
-        private boolean error;
         long value;
 
         boolean isWorkedOut(Law law) {
             int height = 0;
-            error = false;
+            boolean error = false;
             for (int i = 0; i < law.size && !error; i++) {
                 int knot = law.knots[i];
                 if (knot < Law.FIRST_SIGN) {
@@ -746,7 +746,9 @@ public final class StaticDial {
                     stack[height - 1] = stack[height - 1] == 0 ? 1 : 0;
                 } else if (height >= 2) {
                     height--;
-                    stack[height - 1] = joined(knot - Law.FIRST_SIGN, stack[height - 1], stack[height]);
+                    long joined = joined(knot - Law.FIRST_SIGN, stack[height - 1], stack[height]);
+                    error = joined > LIMIT || joined < -LIMIT;
+                    stack[height - 1] = joined;
                 } else {
                     error = true;
                 }
@@ -758,7 +760,7 @@ public final class StaticDial {
             return true;
         }
 
-        private long joined(int sign, long left, long right) {
+        private static long joined(int sign, long left, long right) {
             switch (sign) {
                 case OR:
                     return left != 0 || right != 0 ? 1 : 0;
@@ -777,38 +779,18 @@ public final class StaticDial {
                 case MORE:
                     return left > right ? 1 : 0;
                 case PLUS:
-                    return limited(left + right);
+                    return left + right;
                 case MINUS:
-                    return limited(left - right);
+                    return left - right;
                 case TIMES:
-                    return product(left, right);
+                    // two values within the limit may multiply to more than a long holds
+                    if (left != 0 && (right < 0 ? -right : right) > LIMIT / (left < 0 ? -left : left)) {
+                        return BEYOND;
+                    }
+                    return left * right;
                 default:
-                    return quotient(left, right);
+                    return right == 0 ? BEYOND : left / right;
             }
-        }
-
-        private long limited(long number) {
-            if (number > LIMIT || number < -LIMIT) {
-                error = true;
-            }
-            return number;
-        }
-
-        private long product(long left, long right) {
-            // two values within the limit may multiply to more than a long holds
-            if (left != 0 && (right < 0 ? -right : right) > LIMIT / (left < 0 ? -left : left)) {
-                error = true;
-                return 0;
-            }
-            return left * right;
-        }
-
-        private long quotient(long left, long right) {
-            if (right == 0) {
-                error = true;
-                return 0;
-            }
-            return left / right;
         }
     }
 
@@ -837,8 +819,7 @@ public final class StaticDial {
             for (int i = 0; i < LAWS; i++) {
                 laws[i] = new Law();
             }
-            settings[NEAR] = 3;
-            settings[OFTEN] = 2;
+            clear();
         }
 
         void clear() {
@@ -978,6 +959,10 @@ public final class StaticDial {
         private int[] signs = new int[0];
         private int length;
         private int next;
+        /** Of the token that it has come to. */
+        int sort;
+        int place;
+        int value;
 
         Tokens() {
             for (int word = 0; word < LANGUAGE; word++) {
@@ -995,7 +980,6 @@ public final class StaticDial {
             length = Math.min(Math.min(n, text.length), TAPE_LENGTH);
             next = 0;
             size = 0;
-            current = 0;
             for (int i = 0; i < TAPE_LENGTH && next < length; i++) {
                 int sign = signs[next];
                 if (sign == ' ' || sign == '\n') {
@@ -1009,34 +993,36 @@ public final class StaticDial {
                 }
             }
             add(END, length, 0);
+            current = -1;
+            step();
         }
 
-        private void add(int sort, int place, int value) {
-            sorts[size] = sort;
-            places[size] = place;
-            values[size] = value;
+        private void add(int ofSort, int at, int with) {
+            sorts[size] = ofSort;
+            places[size] = at;
+            values[size] = with;
             size++;
         }
 
         private void cutWord() {
-            int place = next;
+            int from = next;
             int letters = 0;
             while (next < length && signs[next] >= 'a' && signs[next] <= 'z') {
-                if (next - place < MOST_LETTERS) {
+                if (next - from < MOST_LETTERS) {
                     letters = letters << LETTER_BITS | signs[next] - 'a' + 1;
                 }
                 next++;
             }
-            if (next - place > MOST_LETTERS) {
-                add(BAD, place, 0);
+            if (next - from > MOST_LETTERS) {
+                add(BAD, from, 0);
                 return;
             }
-            letters <<= LETTER_BITS * (MOST_LETTERS - (next - place));
+            letters <<= LETTER_BITS * (MOST_LETTERS - (next - from));
             int word = wordOf(letters);
             if (word != NONE) {
-                add(WORD, place, word);
+                add(WORD, from, word);
             } else {
-                add(NAME, place, letters);
+                add(NAME, from, letters);
             }
         }
 
@@ -1050,22 +1036,22 @@ public final class StaticDial {
         }
 
         private void cutNumber() {
-            int place = next;
+            int from = next;
             int number = 0;
             while (next < length && signs[next] >= '0' && signs[next] <= '9') {
                 number = Math.min(HUGE, number * 10 + signs[next] - '0');
                 next++;
             }
-            add(NUMBER, place, number);
+            add(NUMBER, from, number);
         }
 
         private void cutSign(int sign) {
-            int place = next;
+            int from = next;
             int follower = next + 1 < length ? signs[next + 1] : 0;
-            int value = signOf(sign, follower);
-            boolean isLong = value == Sum.NOT_MORE || value == Sum.UNLIKE || value == Sum.NOT_LESS;
+            int which = signOf(sign, follower);
+            boolean isLong = which == Sum.NOT_MORE || which == Sum.UNLIKE || which == Sum.NOT_LESS;
             next += isLong ? 2 : 1;
-            add(value == NONE ? BAD : SIGN, place, value);
+            add(which == NONE ? BAD : SIGN, from, which);
         }
 
         private static int signOf(int sign, int follower) {
@@ -1095,31 +1081,22 @@ public final class StaticDial {
             }
         }
 
-        int sort() {
-            return sorts[current];
-        }
-
-        int place() {
-            return places[current];
-        }
-
-        int value() {
-            return values[current];
-        }
-
         boolean isWord(int word) {
-            return sorts[current] == WORD && values[current] == word;
+            return sort == WORD && value == word;
         }
 
         boolean isSign(int sign) {
-            return sorts[current] == SIGN && values[current] == sign;
+            return sort == SIGN && value == sign;
         }
 
-        /** Stays at the end, where it has come there. */
+        /** Goes on to the next token; at the end it stays. */
         void step() {
             if (current < size - 1) {
                 current++;
             }
+            sort = sorts[current];
+            place = places[current];
+            value = values[current];
         }
     }
 
@@ -1159,7 +1136,7 @@ public final class StaticDial {
             place = NONE;
             tokens.cut(tape, n);
             // each line takes one token at least
-            for (int i = 0; i <= n && fault == 0 && tokens.sort() != Tokens.END; i++) {
+            for (int i = 0; i <= n && fault == 0 && tokens.sort != Tokens.END; i++) {
                 readLine();
                 takeLineEnd();
             }
@@ -1169,12 +1146,12 @@ public final class StaticDial {
         private void fail(int kind) {
             if (fault == 0) {
                 fault = kind;
-                place = tokens.place();
+                place = tokens.place;
             }
         }
 
         private void readLine() {
-            switch (tokens.sort() == Tokens.WORD ? tokens.value() : NONE) {
+            switch (tokens.sort == Tokens.WORD ? tokens.value : NONE) {
                 case Tokens.HOUSE:
                     readHouse();
                     break;
@@ -1230,12 +1207,12 @@ public final class StaticDial {
             if (fault != 0) {
                 return least;
             }
-            if (tokens.sort() != Tokens.NUMBER) {
+            if (tokens.sort != Tokens.NUMBER) {
                 fail(MISPLACED);
-            } else if (!isWithin(tokens.value(), least, most)) {
+            } else if (!isWithin(tokens.value, least, most)) {
                 fail(TOO_MUCH);
             }
-            return fault == 0 ? tokens.value() : least;
+            return fault == 0 ? tokens.value : least;
         }
 
         private int takeNumber(int least, int most) {
@@ -1251,8 +1228,8 @@ public final class StaticDial {
             if (fault != 0) {
                 return 0;
             }
-            int letters = tokens.value();
-            if (tokens.sort() != Tokens.NAME) {
+            int letters = tokens.value;
+            if (tokens.sort != Tokens.NAME) {
                 fail(MISPLACED);
             } else if (isNew && told.houseOf(letters) != NONE) {
                 fail(TOLD_ALREADY);
@@ -1315,7 +1292,7 @@ public final class StaticDial {
 
         private void readLaw() {
             tokens.step();
-            int which = tokens.sort() == Tokens.WORD ? tokens.value() - Tokens.FIRST_LAW : NONE;
+            int which = tokens.sort == Tokens.WORD ? tokens.value - Tokens.FIRST_LAW : NONE;
             if (!isWithin(which, 0, LAWS - 1)) {
                 fail(MISPLACED);
                 return;
@@ -1334,7 +1311,7 @@ public final class StaticDial {
                 readPart();
                 goesOn = fault == 0 && readBehindPart();
             }
-            layAside(0);
+            layAside(1);
         }
 
         /** All that may stand ahead of a number or a name, and that. */
@@ -1350,8 +1327,8 @@ public final class StaticDial {
             if (fault != 0) {
                 return;
             }
-            boolean isName = tokens.sort() == Tokens.WORD && tokens.value() >= Tokens.FIRST_NAME;
-            int knot = isName ? Law.FIRST_NAME + tokens.value() - Tokens.FIRST_NAME : lookNumber(0, LAST_NUMBER);
+            boolean isName = tokens.sort == Tokens.WORD && tokens.value >= Tokens.FIRST_NAME;
+            int knot = isName ? Law.FIRST_NAME + tokens.value - Tokens.FIRST_NAME : lookNumber(0, LAST_NUMBER);
             if (fault == 0) {
                 takeKnot();
                 law.add(knot);
@@ -1396,8 +1373,8 @@ public final class StaticDial {
             if (tokens.isWord(Tokens.AND)) {
                 return Sum.AND;
             }
-            boolean joins = tokens.sort() == Tokens.SIGN && isWithin(tokens.value(), Sum.LESS, Sum.BY);
-            return joins ? tokens.value() : NONE;
+            boolean joins = tokens.sort == Tokens.SIGN && isWithin(tokens.value, Sum.LESS, Sum.BY);
+            return joins ? tokens.value : NONE;
         }
 
         private void takeOpen() {
@@ -1431,9 +1408,9 @@ public final class StaticDial {
             }
         }
 
-        /** Lays the signs that bind so close at least behind what they join. */
+        /** Lays the signs that bind so close at least behind what they join; a '(' (rank 0) stays. */
         private void layAside(int rank) {
-            while (waiting > 0 && rankAside() >= Math.max(1, rank)) {
+            while (waiting > 0 && rankAside() >= rank) {
                 waiting--;
                 law.add(Law.FIRST_SIGN + aside[waiting]);
             }

@@ -8,7 +8,10 @@ public final class FaultsTest {
         ranges();
         toldAlready();
         expressions();
+        wordsOfTheLanguage();
         firstAlongTheText();
+        behindTheText();
+        fullTape();
         CHECK.end();
     }
 
@@ -166,6 +169,73 @@ public final class FaultsTest {
         // a sign that can't stand there is fault 1 before it is too much
         CHECK.fault("law reach not 1<2 " + "and 1 ".repeat(28) + "and 1<2<3;", 1, 193);
         CHECK.fault("law reach not 1<2 " + "and 1 ".repeat(28) + "and 1<2+3;", 2, 193);
+    }
+
+    private static void wordsOfTheLanguage() {
+        CHECK.part("words of the language");
+        String lineWords = " house turn sound near often fade seed law ";
+        String laws = " reach learn drift ";
+        String names = " dial gain far kind heard knows hour ";
+        for (String word : (lineWords + laws + names + " or and not ").trim().split(" +")) {
+            int there = word.length();
+            boolean isLine = lineWords.contains(" " + word + " ");
+            CHECK.fault(word, 1, isLine ? there : 0);
+            CHECK.fault("house " + word + " 1 1;", 1, 6);
+            CHECK.fault("house a 1 1;turn " + word + " 1 1;", 1, 17);
+            CHECK.fault("house a 1 1;sound " + word + " 1 1;", 1, 18);
+            CHECK.fault("near " + word + ";", 1, 5);
+            if (laws.contains(" " + word + " ")) {
+                CHECK.fault("law " + word + " 1;", 0, -1);
+            } else {
+                CHECK.fault("law " + word + " 1;", 1, 4);
+            }
+            if (names.contains(" " + word + " ")) {
+                CHECK.fault("law reach " + word + ";", 0, -1);
+            } else {
+                CHECK.fault("law reach " + word + ";", 1, word.equals("not") ? 13 : 10);
+            }
+            CHECK.fault("house " + word + "s 1 1;house x" + word + " 1 1;", 0, -1);
+        }
+    }
+
+    private static void behindTheText() {
+        CHECK.part("what is behind the text isn't looked at");
+        dueCut("near 2", "1;", 1, 6);
+        dueCut("house", "s a 1 1;", 1, 5);
+        dueCut("near 2;", ";;;;", 0, -1);
+        dueCut("near 2;", "near", 0, -1);
+        dueCut("law reach 1<", "=2;", 1, 12);
+        dueCut("law reach 1<=", "2;", 1, 13);
+        dueCut("law reach 1>=", "2;", 1, 13);
+        dueCut("law reach 1<>", "2;", 1, 13);
+    }
+
+    private static void dueCut(String text, String behind, int fault, int place) {
+        StaticDial dial = new StaticDial();
+        CHECK.due("a number above all", Check.tell(dial, "near 99;"), -1);
+        String all = text + behind + " ".repeat(40 - text.length() - behind.length());
+        for (int i = 0; i < 40; i += 20) {
+            java.nio.ByteBuffer bytes = java.nio.ByteBuffer.wrap(all.substring(i, i + 20).getBytes());
+            dial.feed(bytes.getInt(), bytes.getInt(), bytes.getInt(), bytes.getInt(), bytes.getInt());
+        }
+        dial.text(text.length());
+        CHECK.due("fault(0) of " + text + "|" + behind, dial.fault(0), fault);
+        CHECK.due("fault(1) of " + text + "|" + behind, dial.fault(1), place);
+    }
+
+    private static void fullTape() {
+        CHECK.part("a full tape");
+        for (char sign : "; (a0<=#".toCharArray()) {
+            StaticDial dial = new StaticDial();
+            CHECK.due("700 of " + sign, Check.tell(dial, ("" + sign).repeat(700)), sign == ' ' ? 0 : -1);
+            CHECK.due("fault(1) of 700 of " + sign, dial.fault(1), sign == ' ' ? -1 : 0);
+        }
+        CHECK.fault("law reach" + "(".repeat(691), 2, 17);
+        CHECK.fault("law reach " + "not".repeat(230), 1, 10);
+        CHECK.fault("law reach " + "not ".repeat(172), 2, 10 + 256);
+        CHECK.fault("law reach" + "1+".repeat(345), 2, 9 + 64);
+        CHECK.fault("near 1;" + ";".repeat(693), 1, 7);
+        CHECK.fault("house a 1 1;" + "turn a 1 1;".repeat(62), 2, 122);
     }
 
     private static void firstAlongTheText() {

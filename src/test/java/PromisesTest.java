@@ -13,6 +13,7 @@ public final class PromisesTest {
     public static void main(String[] args) {
         newObject();
         tape();
+        textBehindTexts();
         names();
         house();
         heardAndSound();
@@ -102,6 +103,37 @@ public final class PromisesTest {
         CHECK.due("house(0, 0)", x.house(0, 0), 10);
         CHECK.due("house(1, 6)", x.house(1, 6), 0);
         CHECK.due("heard(1, 0)", x.heard(1, 0), 0);
+    }
+
+    private static void textBehindTexts() {
+        CHECK.part("3: nothing of texts ahead is left");
+        StaticDial x = new StaticDial();
+        String all = "house a 1 1;house b 9 9;turn a 0 9;sound a 0 9;near 9;often 9;fade 100;seed 9;"
+            + "law reach 99;law learn 1;law drift 5;";
+        for (int i = 0; i < 3; i++) {
+            CHECK.due("text", Check.tell(x, all), 11);
+        }
+        for (int i = 0; i < 3; i++) {
+            CHECK.due("text with a fault", Check.tell(x, all + "near"), -1);
+            CHECK.due("text", Check.tell(x, "house a 10 1;house b 14 0;house c 14 0;"), 3);
+            CHECK.due("count(1)", x.count(1), 0);
+            CHECK.due("count(2)", x.count(2), 0);
+            CHECK.due("count(3)", x.count(3), 0);
+            CHECK.due("law(0, 0, 1)", x.law(0, 0, 1), Long.MIN_VALUE);
+            CHECK.due("house(0, 2)", x.house(0, 2), 6);
+            CHECK.due("house(0, 3)", x.house(0, 3), 0);
+            CHECK.due("busiest(0, 0)", x.busiest(0, 0), 11);
+            x.go(5);
+            CHECK.due("house(0, 0)", x.house(0, 0), 10);
+            CHECK.due("house(0, 1)", x.house(0, 1), 1);
+            x.make(1, 1);
+            CHECK.due("house(1, 5)", x.house(1, 5), 0);
+            x.make(1, 1);
+            CHECK.due("house(1, 5)", x.house(1, 5), 5);
+            CHECK.due("text", Check.tell(x, "house a 10 9;house b 14 9;fade 50;"), 3);
+            x.go(1);
+            CHECK.due("seed 0", x.house(0, 1) * 10 + x.house(1, 1), 89);
+        }
     }
 
     private static void names() {
@@ -260,6 +292,11 @@ public final class PromisesTest {
         dueLaw("(4096 * 4096 * 4096) * (4096 * 4096 * 4096) * 1", Long.MIN_VALUE);
         dueLaw("(4096 * 4096 * 4096) * 0", 0);
         dueLaw("(0 - 1000 * 1000) * 1000 * 1000", -1000000000000L);
+        dueLaw("not ".repeat(63) + "0", 1);
+        dueLaw("not ".repeat(62) + "0", 0);
+        dueLaw("((((((((" + "not ".repeat(63) + "0))))))))", 1);
+        dueLaw("1 or 1 and 1 < 1 + 1 * (1 or 1 and 1 < 1 + 1 * (1 or 1 and 1 < 1 + 1 * (0 and 0)))", 1);
+        dueLaw("0 or 1 and 1 < 1 + 1 * (0 or 1 and 1 < 1 + 1 * (0 or 1 and 1 < 1 + 1 * (1 and 0)))", 0);
     }
 
     private static void turnMakeValve() {
@@ -436,6 +473,12 @@ public final class PromisesTest {
         x.go(1);
         CHECK.due("house(0, 1): 45", x.house(0, 1), 7);
         CHECK.due("house(1, 1): 41", x.house(1, 1), 6);
+        x = Check.told("house a 5 9;house b 5 9;fade 1;seed 0;");
+        x.go(1);
+        CHECK.due("fade 1: 0, 68", x.house(0, 1) * 10 + x.house(1, 1), 89);
+        x = Check.told("house a 5 9;house b 5 9;fade 99;seed 0;");
+        x.go(1);
+        CHECK.due("fade 99: 0, 68", x.house(0, 1) * 10 + x.house(1, 1), 88);
         // seed 1: 16838; a number that is fade itself isn't below it
         x = Check.told("house a 5 9;fade 38;seed 1;");
         x.go(1);
@@ -605,6 +648,8 @@ public final class PromisesTest {
         x = Check.told("house a 1 1;house b 1 1;sound a 23 1;sound b 23 2;");
         CHECK.due("ask(0)", x.ask(0), 23);
         CHECK.due("ask(1)", x.ask(1), 1);
+        x = Check.told("house a 1 1;house b 1 1;sound a 0 9;sound b 0 9;");
+        CHECK.due("ask(1): both make a 9", x.ask(1), 2);
         x = Check.told("house a 1 1;house b 1 1;sound a 24 1;sound b 24 2;");
         CHECK.due("ask(0)", x.ask(0), 0);
         CHECK.due("ask(1)", x.ask(1), 2);
@@ -687,6 +732,23 @@ public final class PromisesTest {
         x = Check.told("house a 1 0;house b 4 1;often 1;sound a 1 1;fade 50;");
         x.see(2, 1, 0, true);
         CHECK.due("nears(): the valve has faded", x.nears(), 1023 - 7);
+        // what was tried or drawn ahead leaves no trace
+        x = Check.told("house a 1 0;house b 4 3;often 1;sound a 1 1;law drift hour = 0 and gain;fade 20;seed 1;");
+        x.see(2, 1, 0, true);
+        CHECK.due("nears(): b is at 5", x.nears(), 1023 - 1);
+        x.tried(1, 0, 5);
+        CHECK.due("nears()", x.nears(), 1023 - 1);
+        x.tried(2, 0, 5);
+        CHECK.due("nears()", x.nears(), 1023 - 1);
+        x.chance(0, 9, 0, 1);
+        CHECK.due("nears()", x.nears(), 1023 - 1);
+        x.go(9);
+        CHECK.due("nears()", x.nears(), 1023 - 1);
+        x = Check.told("house a 1 0;house b 4 1;often 1;sound a 1 1;turn b 0 50;");
+        x.see(2, 1, 0, true);
+        CHECK.due("nears()", x.nears(), 0);
+        x.tried(4, 0, 5);
+        CHECK.due("nears()", x.nears(), 0);
         x = Check.told("house a 1 0;house b 4 1;often 1;sound a 1 1;law reach 3;");
         x.see(2, 1, 0, true);
         CHECK.due("nears(): a law of reach holds", x.nears(), 1023);

@@ -141,8 +141,11 @@ public final class RandomRunsTest {
             if (!tell(text(texts))) {
                 return false;
             }
+            // a few calls again and again meet one another's traces more often than all calls alike
+            List<Method> often = new ArrayList<>(FACE);
+            java.util.Collections.shuffle(often, random);
             for (int i = random.nextInt(90); i > 0 && left > 60; i--) {
-                Method method = FACE.get(random.nextInt(FACE.size()));
+                Method method = often.get(random.nextInt(random.nextInt(4) == 0 ? often.size() : 8));
                 boolean disturbs = method.getName().equals("feed") || method.getName().equals("text");
                 if (!(disturbs && random.nextInt(20) != 0) && !call(method, args(method))) {
                     return false;
