@@ -4,6 +4,14 @@ import java.util.Arrays;
 
 /** Counts and prints the answers that are not as due; tells texts. */
 final class Check {
+    interface Made {
+        StaticDial again();
+    }
+
+    interface Call {
+        long on(StaticDial dial);
+    }
+
     private int wrong;
     private String part = "";
 
@@ -47,6 +55,17 @@ final class Check {
         due("text of " + text, lines < 0 ? -1 : 0, fault == 0 ? 0 : -1);
         due("fault(0) of " + text, dial.fault(0), fault);
         due("fault(1) of " + text, dial.fault(1), place);
+    }
+
+    void due(String call, String got, String want) {
+        due(call + ": " + got + " for " + want, got.equals(want), true);
+    }
+
+    /** A call that is refused, or that only asks: all is as if it hadn't been made. */
+    void leavesAll(String name, Made made, Call call, long want) {
+        StaticDial called = made.again();
+        due(name, call.on(called), want);
+        due(name + " leaves all as it is", Trace.of(called).equals(Trace.of(made.again())), true);
     }
 
     void end() {
