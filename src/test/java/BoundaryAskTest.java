@@ -189,6 +189,9 @@ public final class BoundaryAskTest {
         CHECK.part("16: DIALS 0 .. 99");
         dueSecret(Check.told("house a 0 0;house b 99 0;"), 0, 1, 0, 3, 96);
         dueSecret(Check.told("house a 99 0;house b 0 0;"), 0, 1, 3, 0, 96);
+        // both from end to end
+        dueSecret(Check.told("house a 0 0;house b 0 0;house c 0 0;law reach 98;"), 0, 1, 99, 99, 198);
+        dueSecret(Check.told("house a 99 0;house b 99 0;house c 99 0;law reach 98;"), 0, 1, 0, 0, 198);
         dueSecret(Check.told("house a 10 0;house b 20 0;house c 49 0;law reach 48;"), 0, 1, 0, 0, 30);
         dueSecret(Check.told("house a 80 0;house b 90 0;house c 50 0;law reach 48;"), 0, 1, 99, 99, 28);
         dueSecret(Check.told("house a 80 0;house b 90 0;house c 49 0;house d 50 0;law reach 48;"), 0, 1, 99, 99, 28);
@@ -650,6 +653,12 @@ public final class BoundaryAskTest {
         CHECK.due("one rather than two",
             Check.told("house a 10 0;house b 12 0;house c 12 4;house d 9 0;").lure(0, 1), 13);
         CHECK.due("from far away", Check.told("house a 99 0;house b 0 0;").lure(0, 1), 3);
+        String others = "house b 50 0;house c 50 0;house d 50 0;house e 50 0;house f 50 0;";
+        for (int other = 1; other <= 5; other++) {
+            CHECK.due("all or none, from 0", Check.told("house a 0 0;" + others).lure(0, other), 47);
+            CHECK.due("all or none, from 99", Check.told("house a 99 0;" + others).lure(0, other), 53);
+            CHECK.due("all wherever it is", Check.told("house a 99 0;" + others + "law reach 99;").lure(0, other), 99);
+        }
     }
 
     private static void lureAtTheEnds() {
@@ -661,6 +670,8 @@ public final class BoundaryAskTest {
         CHECK.due("not above 99", Check.told("house a 98 0;house b 97 0;house c 99 0;").lure(0, 1), 95);
         // at one dial it is always heard
         CHECK.due("a law that is 0", Check.told("house a 50 0;house b 7 0;law reach 0;").lure(0, 1), 7);
+        CHECK.due("from end to end", Check.told("house a 0 0;house b 99 0;law reach 0;").lure(0, 1), 99);
+        CHECK.due("from end to end", Check.told("house a 99 0;house b 0 0;law reach 0;").lure(0, 1), 0);
         CHECK.due("a law below 0", Check.told("house a 50 0;house b 7 0;law reach 0 - 5;").lure(0, 1), 7);
         StaticDial x = Check.told("house a 50 0;house b 7 0;");
         for (int[] two : new int[][] {{0, 0}, {-1, 0}, {0, -1}, {2, 0}, {0, 2}, {MIN, 0}, {0, MAX}}) {

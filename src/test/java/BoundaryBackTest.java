@@ -18,6 +18,7 @@ public final class BoundaryBackTest {
         triedWithoutASound();
         triedWithNewValves();
         triedWithoutTurns();
+        triedLeavesNothingBehind();
         triedIsRefused();
         undoTheLatestFirst();
         undoTwenty();
@@ -187,6 +188,11 @@ public final class BoundaryBackTest {
         dueStrong(12, 1, 49, 1);
         dueStrong(12, 1, 50, 0);
         dueStrong(11, 1, 50, 1);
+        // each of them, the first and the last of six, too
+        String six = "house a 0 0;house b 12 0;house c 24 0;house d 36 0;house e 48 0;house f 60 0;often 1;";
+        CHECK.due("the first one hears", Check.told(six + "sound b 0 1;").tried(3, 0, 1), 2);
+        CHECK.due("the last one hears", Check.told(six + "sound e 0 1;").tried(3, 0, 1), 2);
+        CHECK.due("the first one is heard", Check.told(six + "sound a 0 1;").tried(3, 0, 1), 1);
         StaticDial x = Check.told("house a 10 0;house b 20 0;");
         x.tried(3, 0, 9);
         CHECK.due("only tried", x.count(7), 0);
@@ -207,6 +213,38 @@ public final class BoundaryBackTest {
         CHECK.due("as it goes again", x.ahead(2, 0, 0), 0);
         x.turn(1, 70);
         CHECK.due("turns by call have been", x.tried(4, 0, 2), 0);
+    }
+
+    private static void triedLeavesNothingBehind() {
+        CHECK.part("39: what is tried is only tried");
+        String text = "house a 10 1;house b 12 9;often 1;sound a 0 1;turn b 1 60;fade 100;law drift 2;";
+        for (int what = 0; what <= 4; what++) {
+            StaticDial x = Check.told(text);
+            x.tried(what, 0, 5);
+            x.go(2);
+            CHECK.due("heard(1, 0) behind " + what, x.heard(1, 0), 1);
+            CHECK.due("house(1, 0) behind " + what, x.house(1, 0), 62);
+            CHECK.due("house(1, 1) behind " + what, x.house(1, 1), 7);
+            x = Check.told(text);
+            x.tried(what, 0, 5);
+            CHECK.due("chance behind " + what, x.chance(0, 1, 1, 0), 10);
+            x = Check.told(text);
+            x.tried(what, 0, 5);
+            CHECK.due("nextHeard behind " + what, x.nextHeard(1, 0), 1);
+            x.tried(what, 0, 5);
+            CHECK.due("ahead behind " + what, x.ahead(2, 2, 1), 62);
+            x.tried(what, 0, 5);
+            CHECK.due("first behind " + what, x.first(0), -2);
+            x.tried(what, 0, 5);
+            CHECK.due("make behind " + what, x.make(0, 1), 2);
+        }
+        // drawn as told behind a trial, at chance and at go
+        StaticDial x = Check.told("house a 10 0;house b 13 0;often 1;sound a 1 1;law drift dial > 12;fade 50;");
+        x.tried(1, 0, 2);
+        CHECK.due("chance(5, 2, 1, 0)", x.chance(5, 2, 1, 0), 0);
+        x.tried(1, 0, 2);
+        x.go(2);
+        CHECK.due("heard(1, 0)", x.heard(1, 0), 0);
     }
 
     private static void triedIsRefused() {

@@ -25,6 +25,7 @@ public final class BoundaryHourTest {
         eachHouseTakesANumber();
         numbers();
         asItGoes();
+        bindsCloser();
         namesOfReach();
         namesOfLearn();
         namesOfDrift();
@@ -250,6 +251,14 @@ public final class BoundaryHourTest {
         }
         x.go(99);
         CHECK.due("house(4, 0)", x.house(4, 0), 0);
+        // all of six
+        x = Check.told("house a 0 0;house b 10 0;house c 20 0;house d 30 0;house e 40 0;house f 50 0;fade 100;"
+            + "law drift 9;law reach 99;law learn 1;sound f 0 1;sound a 0 1;");
+        x.go(1);
+        for (int i = 0; i < 6; i++) {
+            CHECK.due("house(" + i + ", 0)", x.house(i, 0), 10 * i + 9);
+        }
+        CHECK.due("count(5)", x.count(5), 10);
     }
 
     private static long next(long number) {
@@ -360,6 +369,10 @@ public final class BoundaryHourTest {
         dueName("reach", "heard + 99", 99, 101);
         dueName("reach", "knows + 99", 99, 100);
         dueName("reach", "hour + 90", 93, 93);
+        // the kind is 0 where it is asked who hears a sound, too
+        StaticDial x = Check.told("house a 10 0;house b 11 0;house c 10 0;law reach kind;");
+        CHECK.due("make(0, 9)", x.make(0, 9), 4);
+        CHECK.due("house(0, 3)", x.house(0, 3), 4);
     }
 
     private static void namesOfLearn() {
@@ -414,6 +427,26 @@ public final class BoundaryHourTest {
 
     private static void dueValue(String e, long want) {
         CHECK.due(e, Check.told("house a 10 0;law drift " + e + ";").law(2, 0, 0), want);
+    }
+
+    private static void bindsCloser() {
+        CHECK.part("E: A { or A }, A: B { and B }, C: S [ .. S ], S: T { ( + | - ) T }, T: P { ( * | / ) P }");
+        dueValue("7 * 3 / 2", 10);
+        dueValue("7 / 2 * 3", 9);
+        dueValue("7 * (3 / 2)", 7);
+        dueValue("100 / 10 / 5", 2);
+        dueValue("10 - 4 + 3", 9);
+        dueValue("10 + 4 - 3 - 2", 9);
+        dueValue("10 - (4 + 3)", 3);
+        dueValue("2 + 3 * 4 - 6 / 2", 11);
+        dueValue("1 + 2 < 2 * 2", 1);
+        dueValue("not 1 < 2 or 1 = 1", 1);
+        dueValue("not 0 and 0 or 0", 0);
+        dueValue("1 or 1 and 0", 1);
+        dueValue("0 and 0 or 1", 1);
+        dueValue("0 and (0 or 1)", 0);
+        dueValue("not not 7 and not 0", 1);
+        dueValue("1 - 1 and 1 or 2 - 2", 0);
     }
 
     private static void truth() {

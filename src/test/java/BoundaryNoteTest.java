@@ -225,6 +225,7 @@ public final class BoundaryNoteTest {
             CHECK.due("known(25)", x.known(25), false);
             // 23 strikes, each of the one ahead: the first strike doesn't count, if there is an even number of them
             CHECK.due("whose()", x.whose(), sort == 2 ? 7 : 1);
+            CHECK.due("nears()", x.nears(), sort == 1 ? 0 : 1023);
             x.known(23);
             CHECK.due("whose() by 23", x.whose(), 1);
         }

@@ -37,6 +37,7 @@ public final class BoundaryTextTest {
         equalsBelongsToIt();
         oneComparison();
         openSigns();
+        nothingIsLeftOfAFault();
         knots();
         theLengthIfMoreMustCome();
         theFirstAlongTheText();
@@ -160,6 +161,17 @@ public final class BoundaryTextTest {
         x = lived();
         CHECK.due("text(0)", x.text(0), 0);
         CHECK.due("all is new", Trace.of(x), Trace.of(new StaticDial()));
+        // houses of texts ahead leave no strength behind
+        x = lived();
+        String six = "house a 1 9;house b 1 9;house c 1 9;house d 1 9;house e 1 9;house f 1 9;";
+        for (int i = 0; i < 2; i++) {
+            CHECK.due("text", Check.tell(x, six), 6);
+            CHECK.due("count(7)", x.count(7), 54);
+        }
+        for (int i = 0; i < 2; i++) {
+            CHECK.due("text", Check.tell(x, "house a 1 2;"), 1);
+            CHECK.due("count(7)", x.count(7), 2);
+        }
         x = lived();
         Check.tell(x, TEXT);
         x.note(0, 1, true);
@@ -559,6 +571,8 @@ public final class BoundaryTextTest {
         CHECK.fault("law reach 1 or or 1;", 1, 15);
         CHECK.fault("law reach not;", 1, 13);
         CHECK.fault("law reach 1 not 1;", 1, 12);
+        CHECK.fault("law;", 1, 3);
+        CHECK.fault("law 1;", 1, 4);
         CHECK.fault("law reach 1 1;", 1, 12);
         CHECK.fault("law reach dial 1;", 1, 15);
         CHECK.fault("law reach ;", 1, 10);
@@ -581,6 +595,20 @@ public final class BoundaryTextTest {
         CHECK.fault("law reach ((((((((;", 1, 18);
         CHECK.fault("law reach ((((((((", 1, 18);
         CHECK.fault("law reach (((((((( (", 2, 19);
+    }
+
+    private static void nothingIsLeftOfAFault() {
+        CHECK.part("3: NONE with a FAULT, all stays: the next TEXT is read from its own beginning");
+        for (String amiss : new String[] {"law drift ((1+2*", "law drift not (not (1 <", "law drift 1 or 2 and 3 < 4 + 5 *",
+            "law drift (((((((((", "house b 5 5;house c 6", "near 5;often 5;fade 5;seed 5;#", "law reach 1;law learn 1;x"}) {
+            StaticDial x = new StaticDial();
+            CHECK.due(amiss, Check.tell(x, amiss), -1);
+            CHECK.due("text", Check.tell(x, "house a 1 1;near 1;often 1;fade 1;seed 1;law drift 1 + 2 * (3 - 1);"), 6);
+            CHECK.due("law(2, 0, 0)", x.law(2, 0, 0), 5);
+            CHECK.due("count(3)", x.count(3), 7);
+            CHECK.due("count(0)", x.count(0), 1);
+            CHECK.due("law(0, 0, 1)", x.law(0, 0, 1), Long.MIN_VALUE);
+        }
     }
 
     private static void knots() {
