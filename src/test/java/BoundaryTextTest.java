@@ -38,6 +38,7 @@ public final class BoundaryTextTest {
         oneComparison();
         openSigns();
         nothingIsLeftOfAFault();
+        nothingIsLeftOfManyFaults();
         knots();
         theLengthIfMoreMustCome();
         theFirstAlongTheText();
@@ -609,6 +610,16 @@ public final class BoundaryTextTest {
             CHECK.due("count(0)", x.count(0), 1);
             CHECK.due("law(0, 0, 1)", x.law(0, 0, 1), Long.MIN_VALUE);
         }
+    }
+
+    private static void nothingIsLeftOfManyFaults() {
+        CHECK.part("3: NONE with a FAULT, all stays: again and again");
+        StaticDial x = new StaticDial();
+        for (int i = 0; i < 40; i++) {
+            CHECK.due("((((((((", Check.tell(x, "law drift (((((((( 1 or 1 and not 1 < 1 + 1 *"), -1);
+        }
+        CHECK.due("text", Check.tell(x, "house a 1 1;law drift 1 + 2 * (3 - (4 - (5 - (6 - (7 - 1)))));"), 2);
+        CHECK.due("law(2, 0, 0)", x.law(2, 0, 0), 9);
     }
 
     private static void knots() {
